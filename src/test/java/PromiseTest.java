@@ -420,6 +420,20 @@ public final class PromiseTest {
         due.is("its weight", three.share(0, NONE), 1350851717672992089L);
         due.is("and no more", three.step(0, 1), NONE);
 
+        // 30 times 9 to the 18th is the last below 2 to the 62nd, 31 times is above it.
+        WaveWalk near = new WaveWalk();
+        near.net(2, 3);
+        near.walk(0);
+        near.set(0, 0, 0, 5);
+        near.set(0, 0, 1, 2);
+        near.set(0, 0, 2, 1);
+        due.is("30 times 9 to the 18th", near.step(0, 18), 18);
+        due.is("its weight", near.share(0, NONE), 30 * 150094635296999121L);
+        near.back(0, 18);
+        near.set(0, 1, 0, 1);
+        due.is("31 times 9 to the 18th", near.step(0, 18), NONE);
+        due.is("31 times 9 to the 17th", near.step(0, 17), 17);
+
         WaveWalk four = onePlace(4);
         due.is("4 to the 32nd", four.step(0, 32), NONE);
         due.is("4 to the 31st", four.step(0, 31), 31);
@@ -630,6 +644,7 @@ public final class PromiseTest {
         x.set(0, 0, 0, 1);
         due.is("best", x.best(0, 60), 1);
         due.is("within 0", x.best(0, 0), 0);
+        due.is("within 1", x.best(0, 1), 1);
         x.step(0, 1);
         due.is("now, as later ones are like it", x.best(0, 60), 0);
         due.is("the walk stays", x.of(0, 1), 1);
@@ -737,6 +752,14 @@ public final class PromiseTest {
         two.step(0, 60);
         due.is("at time 60", two.mean(0, 0, 0), 1L << 60);
         due.is("behind time 60", two.mean(0, 0, 1), NONE);
+
+        // Now 2 to the 61st is at place 1, and behind the step that makes it 2 to the 62nd nothing is.
+        WaveWalk going = twoPlaces();
+        going.walk(0);
+        going.set(0, 0, 0, 2);
+        going.step(0, 59);
+        due.is("2 to the 62nd and 0", going.mean(0, 1, 1), MOST_WEIGHT);
+        due.is("0 and 2 to the 62nd", going.mean(0, 0, 1), MOST_WEIGHT);
 
         // A walk that goes on so far, with nothing at the place, has the mean 0.
         WaveWalk empty = new WaveWalk();
