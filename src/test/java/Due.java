@@ -50,9 +50,27 @@ final class Due {
         }
     }
 
+    /** The call answers that, and nothing that can be seen of the object changes. */
+    void refuses(String call, WaveWalk x, Call what, long want) {
+        String ahead = Seen.of(x);
+        is(call, what.answer(), want);
+        isTrue(call + " changes nothing", ahead.equals(Seen.of(x)));
+    }
+
+    /** The call throws that, and nothing that can be seen of the object changes. */
+    void refuses(String call, WaveWalk x, Deed deed, Class<? extends RuntimeException> want) {
+        String ahead = Seen.of(x);
+        ends(call, deed, want);
+        isTrue(call + " changes nothing", ahead.equals(Seen.of(x)));
+    }
+
     void tell(String what) {
         wrong++;
         System.out.println("WRONG: " + what);
+    }
+
+    int asked() {
+        return asked;
     }
 
     int wrong() {

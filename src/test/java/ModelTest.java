@@ -176,12 +176,7 @@ public final class ModelTest {
         }
         calls++;
         String want = model.answer(name, a);
-        String got;
-        try {
-            got = ask(name, a);
-        } catch (RuntimeException e) {
-            got = e.getClass().getSimpleName();
-        }
+        String got = Asked.answer(tried, name, a);
         told.append(name).append(Arrays.toString(a)).append(" = ").append(want).append('\n');
         answered.merge(name + " " + kindOf(want), 1, Integer::sum);
         due.is("an answer", got.equals(want) ? 1 : 0, 1);
@@ -196,30 +191,5 @@ public final class ModelTest {
         }
         boolean word = answer.equals("true") || answer.equals("false") || answer.equals("void");
         return word ? answer : answer.equals("-1") ? "none" : answer.equals("0") ? "zero" : "more";
-    }
-
-    private String ask(String name, int[] a) {
-        switch (name) {
-            case "net": return "" + tried.net(a[0], a[1]);
-            case "join": return "" + tried.join(a[0], a[1], a[2], a[3], a[4]);
-            case "leads": return "" + tried.leads(a[0], a[1], a[2]);
-            case "mark": return "" + tried.mark(a[0], a[1], a[2] != 0);
-            case "alike": return "" + tried.alike(a[0], a[1]);
-            case "walk": return "" + tried.walk(a[0]);
-            case "set": return "" + tried.set(a[0], a[1], a[2], a[3]);
-            case "spread": tried.spread(a[0], a[1]); return "void";
-            case "step": return "" + tried.step(a[0], a[1]);
-            case "back": return "" + tried.back(a[0], a[1]);
-            case "at": return "" + tried.at(a[0], a[1], a[2]);
-            case "share": return "" + tried.share(a[0], a[1]);
-            case "of": return "" + tried.of(a[0], a[1]);
-            case "arrives": return "" + tried.arrives(a[0], a[1], a[2]);
-            case "returns": return "" + tried.returns(a[0], a[1]);
-            case "best": return "" + tried.best(a[0], a[1]);
-            case "mean": return "" + tried.mean(a[0], a[1], a[2]);
-            case "copy": tried.copy(a[0], a[1]); return "void";
-            case "count": return "" + tried.count(a[0]);
-            default: throw new IllegalStateException(name);
-        }
     }
 }
