@@ -1,12 +1,18 @@
+import java.io.IOException;
 import java.lang.reflect.Constructor;
 import java.lang.reflect.Field;
 import java.lang.reflect.Method;
 import java.lang.reflect.Modifier;
+import java.nio.charset.StandardCharsets;
+import java.nio.file.Files;
+import java.nio.file.Path;
 import java.util.Arrays;
 import java.util.TreeSet;
+import java.util.regex.Matcher;
+import java.util.regex.Pattern;
 import java.util.stream.Collectors;
 
-/** The class has the constants, constructor and methods of the document, and no other member to be seen. */
+/** The class has the constants, constructor and methods of the document, and no other member to be seen; -Ddoc names it. */
 public final class FaceTest {
     private static final String[] METHODS = {
         "int net(int,int)",
@@ -31,7 +37,7 @@ public final class FaceTest {
     };
     private static final Due due = new Due();
 
-    public static void main(String[] args) {
+    public static void main(String[] args) throws IOException {
         Class<WaveWalk> face = WaveWalk.class;
         due.is("public and final", face.getModifiers(), Modifier.PUBLIC | Modifier.FINAL);
         due.isTrue("no class above it", face.getSuperclass() == Object.class && face.getInterfaces().length == 0);
@@ -47,7 +53,38 @@ public final class FaceTest {
                 due.isFalse(each + " is named like the face", Arrays.stream(METHODS).anyMatch(x -> x.contains(start)));
             }
         }
+        Path document = Path.of(System.getProperty("doc", "../shared/DOC.md"));
+        if (Files.isReadable(document)) {
+            sameAsIn(Files.readString(document, StandardCharsets.UTF_8));
+        } else {
+            System.out.println("There is no " + document + ": the face was not compared with it.");
+        }
         due.end();
+    }
+
+    /** What is listed here is what the document lists, both in its face and at its promises. */
+    private static void sameAsIn(String document) {
+        TreeSet<String> want = new TreeSet<>(Arrays.asList(METHODS));
+        TreeSet<String> listed = headsIn("(?m)^    public (\\w+ \\w+)\\(([^)]*)\\)(?: throws ([^;]*))?;$", document);
+        due.isTrue("the document's face has " + listed, listed.equals(want));
+        TreeSet<String> promised = headsIn("(?m)^`(\\w+ \\w+)\\(([^)]*)\\)(?: throws ([^`]*))?`: ", document);
+        due.isTrue("the document's promises have " + promised, promised.equals(want));
+        due.isTrue("the document's constructor", document.contains("    public WaveWalk();\n"));
+        Matcher constants = Pattern.compile("(?m)^    public static final .*$").matcher(document);
+        while (constants.find()) {
+            due.isTrue(constants.group(), constants.group().equals("    public static final int NONE = -1;"));
+        }
+    }
+
+    private static TreeSet<String> headsIn(String form, String document) {
+        TreeSet<String> heads = new TreeSet<>();
+        Matcher m = Pattern.compile(form).matcher(document);
+        while (m.find()) {
+            String takes = m.group(2).replaceAll(" \\w+(, )?", ",").replaceAll(",$", "");
+            String ends = m.group(3) == null ? "" : " " + m.group(3).replace(",", "");
+            heads.add(m.group(1) + "(" + takes + ")" + ends);
+        }
+        return heads;
     }
 
     private static void methods(Class<?> face) {

@@ -2,7 +2,11 @@ import java.io.IOException;
 import java.nio.charset.StandardCharsets;
 import java.nio.file.Files;
 import java.nio.file.Path;
+import java.util.HashMap;
+import java.util.HashSet;
 import java.util.List;
+import java.util.Map;
+import java.util.Set;
 import java.util.regex.Matcher;
 import java.util.regex.Pattern;
 
@@ -11,6 +15,11 @@ public final class RulesTest {
     private static final int LONGEST_METHOD = 60;
     private static final int MOST_CLASSES = 12;
     private static final int MOST_PARAMETERS = 7;
+    private static final int MOST_FIELDS = 20;
+    private static final int DEEPEST_CALLS = 8;
+    private static final Pattern HEAD = Pattern.compile("(?m)^( {4}| {8})(?! )[^;={}]*?(\\w+)\\(([^()]*)\\)[^;={}]*\\{$");
+    /** What the class uses of what rule 4 lists; a new name here is looked up there first. */
+    private static final Set<String> LIBRARY = Set.of("Math.min", "System.arraycopy");
     private static final List<String> FORBIDDEN = List.of(
         "->", "::", "\\btry\\b", "\\bcatch\\b", "\\bfinally\\b", "\\bsynchronized\\b", "\\bassert\\b", "\\bpackage\\b",
         "Exact\\b", "\\bhashCode\\b", "\\btoString\\b", "\\bequals\\b", "\\bgetMessage\\b", "\\bextends\\b", "\\bnative\\b",
@@ -32,6 +41,9 @@ public final class RulesTest {
         staticFields(code);
         due.isTrue("classes", occurrences("\\bclass\\b", code) <= MOST_CLASSES);
         methodLengths(code);
+        callDepth(code);
+        library(code);
+        fieldCounts();
         due.end();
     }
 
@@ -65,16 +77,69 @@ public final class RulesTest {
         }
     }
 
+    private static void library(String code) {
+        Matcher m = Pattern.compile("\\b([A-Z]\\w*\\.[a-z]\\w*)\\(").matcher(code);
+        while (m.find()) {
+            due.isTrue(m.group(1) + " is of the library that may be used", LIBRARY.contains(m.group(1)));
+        }
+        Set<String> own = new HashSet<>(Set.of("NoSuchElementException", "IllegalArgumentException", "int", "long", "boolean"));
+        Matcher classes = Pattern.compile("\\bclass (\\w+)").matcher(code);
+        while (classes.find()) {
+            own.add(classes.group(1));
+        }
+        Matcher made = Pattern.compile("\\bnew (\\w+)").matcher(code);
+        while (made.find()) {
+            due.isTrue(made.group(1) + " may be made", own.contains(made.group(1)));
+        }
+    }
+
+    private static void fieldCounts() {
+        for (Class<?> inside : WaveWalk.class.getDeclaredClasses()) {
+            due.isTrue(inside + " has few fields", inside.getDeclaredFields().length <= MOST_FIELDS);
+        }
+        due.isTrue("the class has few fields", WaveWalk.class.getDeclaredFields().length <= MOST_FIELDS);
+    }
+
+    private static String bodyOf(Matcher head, String code) {
+        int end = code.indexOf("\n" + head.group(1) + "}", head.start());
+        return code.substring(head.end(), end < 0 ? code.length() : end);
+    }
+
     private static void methodLengths(String code) {
-        Matcher m = Pattern.compile("(?m)^( {4}| {8})(?! )[^;={}]*\\(([^()]*)\\)[^;={}]*\\{$").matcher(code);
+        Matcher m = HEAD.matcher(code);
         int methods = 0;
         while (m.find()) {
             methods++;
-            int end = code.indexOf("\n" + m.group(1) + "}", m.start());
-            String body = code.substring(m.start(), end < 0 ? code.length() : end);
-            due.isTrue("short: " + m.group().trim(), body.split("\n").length <= LONGEST_METHOD);
-            due.isTrue("few parameters: " + m.group().trim(), m.group(2).split(",").length <= MOST_PARAMETERS);
+            due.isTrue("short: " + m.group().trim(), bodyOf(m, code).split("\n").length <= LONGEST_METHOD);
+            due.isTrue("few parameters: " + m.group().trim(), m.group(3).split(",").length <= MOST_PARAMETERS);
         }
         due.isTrue("methods were found", methods > 30);
+    }
+
+    /** Methods of one name are taken as one: that can only make the calls deeper. */
+    private static void callDepth(String code) {
+        Map<String, Set<String>> calls = new HashMap<>();
+        Matcher m = HEAD.matcher(code);
+        while (m.find()) {
+            Matcher call = Pattern.compile("\\b(\\w+)\\(").matcher(bodyOf(m, code));
+            Set<String> called = calls.computeIfAbsent(m.group(2), any -> new HashSet<>());
+            while (call.find()) {
+                called.add(call.group(1));
+            }
+        }
+        for (String each : calls.keySet()) {
+            due.isTrue("no recursion, and few calls deep: " + each, depth(each, calls, 1) <= DEEPEST_CALLS);
+        }
+        due.isTrue("calls were found", depth("step", calls, 1) >= 3);
+    }
+
+    private static int depth(String name, Map<String, Set<String>> calls, int open) {
+        int deepest = open;
+        for (String each : calls.get(name)) {
+            if (calls.containsKey(each) && open <= DEEPEST_CALLS) {
+                deepest = Math.max(deepest, depth(each, calls, open + 1));
+            }
+        }
+        return deepest;
     }
 }

@@ -9,7 +9,7 @@ import java.util.Map;
 
 /**
  * Tests that each bear the words of the document that they hold the class to. Words that do not stand in
- * their section are told as wrong, and so are words of the terms and promises that no test bears.
+ * their section are told as wrong, and so are words of its beginning, terms and promises that no test bears.
  */
 final class Sentences {
     private final Due due;
@@ -57,12 +57,11 @@ final class Sentences {
                 continue;
             }
             String left = without(body, each.getValue(), each.getKey());
-            boolean whole = each.getKey().equals("Terms") || each.getKey().startsWith("Promise");
-            due.is(each.getKey() + " has words that no test bears: " + left, whole && left.matches(".*[\\p{L}\\d].*") ? 1 : 0, 0);
+            due.isFalse(each.getKey() + " has words that no test bears: " + left, left.matches(".*[\\p{L}\\d].*"));
         }
         for (String name : sections.keySet()) {
-            boolean meant = name.equals("Terms") || name.startsWith("Promise");
-            due.is(name + " has tests", meant && !borne.containsKey(name) ? 0 : 1, 1);
+            boolean meant = name.equals("What it is") || name.equals("Terms") || name.startsWith("Promise");
+            due.isTrue(name + " has tests", !meant || borne.containsKey(name));
         }
     }
 
